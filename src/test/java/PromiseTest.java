@@ -442,6 +442,7 @@ public final class PromiseTest {
         loop.guard(1, -1, 0, 0);
         loop.update(1, 0, 1, 0, -2);
         due("10: x grows on the first", loop.proven(), false);
+        due("9: so x makes no level", loop.levels(), 0);
         loop.remove(0);
         due("10: it is removed", loop.proven(), true);
         due("11: the other moved up", loop.levelOf(0), 0);
